@@ -808,8 +808,8 @@ public final class PromiseTest {
         due("refusals", x.count(11) * 10 + x.count(12), 22);
 
         promise = 36;
-        x = in("p04;p04;p04;p04;b000;b109;b208;b301;");
-        due("0 or 9", x.scorn(0), 2);
+        x = in("p04;p04;p04;p04;p04;b000;b109;b208;b301;b409;");
+        due("0 or 9", x.scorn(0), 3);
         due("none", x.scorn(1), 0);
         refused(x.scorn(5), -1);
         refused(x.scorn(-1), -1);
