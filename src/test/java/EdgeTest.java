@@ -106,6 +106,14 @@ public final class EdgeTest {
         due("how many", x.count(0), 7);
         due("the seventh", x.belief(6, 0), 5);
         due("no eighth", x.belief(7, 0), -1);
+        x = in("p49;p49;p49;p49;p49;p49;p04;" + DAILY);
+        due("the seventh by PREACH", x.preach(0), 6);
+        due("the seventh by MATCH", in("p04;p04;p04;p04;p04;p04;p30;").match(6), 0);
+        x = in("p04;p04;p04;p04;p04;p04;p30;b500;a56011;");
+        due("the seventh in a WAGER", x.personIn(5, 1, 0), 6);
+        due("not the seventh by FIRST", x.wedWhen(-1), 5);
+        x.days(1);
+        due("the seventh is WED", x.count(3), 32 + 64);
 
         sentence("of KINDS: 0 SUITOR; 1 AUNT under SUITOR; 2 GIRL under SUITOR; 3 GAMBLER under SUITOR; "
             + "4 RICH under AUNT; 5 HONEST under GAMBLER");
@@ -355,6 +363,15 @@ public final class EdgeTest {
         x.days(60);
         due("60 more", x.count(1), 61);
 
+        sentence("n DAYS go by: how many are WED. -4 1; -6 (60; DAY above 999).");
+        x = in(PAIRS + "a01011;a23013;");
+        due("two, not those of the DAYS to come", x.days(1), 2);
+        due("two", x.days(1), 2);
+        due("four", x.days(1), 4);
+        due("below", x.days(0), -4);
+        due("above", x.days(61), -6);
+        due("the greatest", x.days(60), 4);
+
         sentence("their DAYS are 1 less; are these 0");
         x = in(PAIRS + "a01019;a23011;");
         x.days(1);
@@ -592,6 +609,9 @@ public final class EdgeTest {
         due("to whom, 60", x.personIn(1, 60, 0), 0);
         due("BELIEF, 60", x.beliefIn(2, 0, 60), 3);
         due("how many, 60", x.wedIn(60), 2);
+        LostBets odd = in("p04;e032;");
+        int[] from = {5, 6, 5, 4, 5};
+        for (int n = 0; n <= 4; n++) due("BELIEF with ON, " + n, odd.beliefIn(0, 0, n), from[n]);
         due("61", x.personIn(0, 61, 0), -6);
         due("61", x.beliefIn(0, 0, 61), -6);
         due("61", x.wedIn(61), -6);
@@ -757,6 +777,10 @@ public final class EdgeTest {
         due("two twos", x.match(-1), 2);
         int[] first = {1, 0, 3, 2};
         for (int p = 0; p < 4; p++) due("with whom " + p + " is", x.match(p), first[p]);
+        // 0 and 1 have no BET with one another, though 2 and 3 would be left to one another
+        x = in("p04;p04;p30;p30;");
+        due("two twos", x.match(-1), 2);
+        due("with whom 0 and 1 are", x.match(0) * 10 + x.match(1), 23);
         // 0 could be alone or with 3, as many come: with 3
         x = in("p04;p04;p04;p30;");
         due("alone last", x.match(0), 3);
@@ -785,6 +809,10 @@ public final class EdgeTest {
         due("two by EVENT 1, one by EVENT 0", x.fix(2), 11);
         x = in(PAIRS + "e120;b210;a01012;a23112;");
         due("one by either: the least", x.fix(2), 1);
+        due("one EVENT alone", in(PAIRS + "e021;e121;b210;a01011;a23111;").fix(1), 0);
+        x = in("p04;p30;b000;");
+        x.proposes(0, 1, 0, 1, 2);
+        due("as it is now", x.fix(2), 1);
         x = in(PAIRS + "a01011;a23012;");
         due("one is WED anyway, by ON 1 the other instead", x.fix(30), -9);
         due("nobody", new LostBets().fix(30), -9);
@@ -808,6 +836,10 @@ public final class EdgeTest {
         due("3 woos 2", x.wooers(2), 8);
         due("most others, not most more", x.preach(0), 2);
         due("BELIEF stays", x.belief(2, 0), 9);
+        x = in("p49;p30;" + DAILY + "b009;b104;");
+        due("1 does not dare", x.preach(0), -9);
+        x.believes(1, 0, 9);
+        due("as it is now", x.preach(0), 0);
     }
 
     private void fairAndLost() {
@@ -934,7 +966,12 @@ public final class EdgeTest {
         due("whom the first WISHES is no matter", in("p04;p04;w01;").two(0, 1, 0), 1);
         due("the EVENT happens on the next DAY", in("p04;p04;e021;").two(0, 1, 0), 0);
         due("the EVENT happens today alone", in("p04;p04;e020;").two(0, 1, 0), 1);
+        due("every third DAY, on the next", in("p04;p04;e032;").two(0, 1, 0), 0);
+        due("every third DAY, on the last", in("p04;p04;e031;").two(0, 1, 0), 1);
         due("a told EVENT", in("p04;p04;e411;").two(0, 1, 4), 0);
+        LostBets wishing = in("p04;p04;");
+        wishing.wishes(1, 0);
+        due("as it is now", wishing.two(0, 1, 0), 0);
         due("the BELIEF of now is no matter", in("p04;p04;b009;b100;").two(0, 1, 0), 1);
         LostBets x = in("p04;p04;p30;p30;b000;a03011;");
         due("the first is in a WAGER", x.two(0, 1, 0), -3);
@@ -987,6 +1024,8 @@ public final class EdgeTest {
         due("34 over 9", x.shares(9, 0) * 10 + x.shares(9, 1), 37);
         due("34 over 2", x.shares(2, 0) * 10 + x.shares(2, 1), 170);
         due("34 over 7", x.shares(7, 0) * 10 + x.shares(7, 1), 46);
+        x = in(PAIRS + "a01011;a23013;d02;");
+        due("not the TEARS of the next DAY", x.shares(1, 0) * 10 + x.shares(9, 1), 55);
         due("over 0", x.shares(0, 0), -4);
         due("over 10", x.shares(10, 0), -6);
         due("nobody", new LostBets().shares(9, 0) * 10 + new LostBets().shares(9, 1), 0);
@@ -1073,6 +1112,9 @@ public final class EdgeTest {
         due("0 summers", x.lots(0, 5, 0), -4);
         due("21 summers", x.lots(21, 5, 0), -6);
         due("nobody", new LostBets().lots(20, MIN, 1), 0);
+        x = in("p04;p30;e090;b009;");
+        x.proposes(0, 1, 0, 0, 1);
+        due("as it is now", x.lots(1, 1, 0), 2);
 
         sentence("DRAWS: z becomes z times 1103515245 plus 12345 (an int, wrapping); a DRAW below n is "
             + "(z without its sign's bit, over 65536, cut) modulo n.");
@@ -1253,6 +1295,8 @@ public final class EdgeTest {
         due("on DAY 0", x.left(2), 1 + 4 + 16);
         x.days(1);
         due("on DAY 1", x.left(2), 1 + 2 + 8);
+        due("none", in("e021;e121;e221;e321;e421;").left(2), 0);
+        due("the last alone", in("e021;e121;e221;e321;").left(2), 16);
         due("on DAY 999", onDay(999, "e090;e191;e298;e310;e420;").left(2), 1 + 8);
 
         sentence("WIVES: WED twos who WISHED each other.");
@@ -1306,6 +1350,16 @@ public final class EdgeTest {
         x.days(5);
         due("the new one", x.restore(), 3);
         due("none", new LostBets().restore(), -3);
+        x = in("p04;");
+        x.image();
+        tell(x, "p29;p30;w10;w02;b100;b140;a12011;d01;");
+        due("TEARS of one that is there no more", x.personOf(1, 3), 10);
+        x.restore();
+        due("one more", x.person(0, 9), 1);
+        due("is as at first: TEARS", x.personOf(1, 3), 0);
+        due("WISHES", x.personOf(1, 2), 1);
+        due("WED", x.personOf(1, 4), -9);
+        due("BELIEF", x.belief(1, 0) * 10 + x.belief(1, 4), 55);
     }
 
     private static List<Integer> townOf(LostBets x) {
