@@ -248,7 +248,7 @@ public final class RefusalTest {
     private void byWhatThereIs() {
         Consumer<LostBets> nothing = x -> { };
         Consumer<LostBets> fullOfLetters = x -> {
-            while (x.count(5) < 96) x.feed(';');
+            for (int i = x.count(5); i < 96; i++) x.feed(';');
         };
         refused("feed, 96 letters", fullOfLetters, x -> x.feed(0), -6);
         refused("feed, 96 letters", fullOfLetters, x -> x.feed(255), -6);
