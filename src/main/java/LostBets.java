@@ -827,7 +827,8 @@ public final class LostBets {
             if (!isOneOf(side, SIDES)) return OTHER;
             if (wait < 1) return BELOW;
             if (wait > MOST_WAGER_DAYS) return ROOM;
-            return canBe(one, other, event, side) ? ALLOWED : STATE;
+            // no two are free while MOST_OPEN are open, so this refuses nothing more, but no index goes unlooked at
+            return open < MOST_OPEN && canBe(one, other, event, side) ? ALLOWED : STATE;
         }
 
         void propose(int one, int other, int event, int side, int wait) {

@@ -40,6 +40,7 @@ public final class LanguageTest {
     public static void main(String[] args) throws IOException {
         LanguageTest test = new LanguageTest();
         test.source(Files.readString(Path.of(SOURCE)));
+        test.growingRows(Files.readString(Path.of(SOURCE)));
         test.face();
         test.bytecode(disassembled());
         test.depth();
@@ -67,6 +68,19 @@ public final class LanguageTest {
             check.holds(methods.group(2) + " is short", methods.group(3).lines().count() <= LONGEST_METHOD);
         }
         check.holds("methods were seen", seen > 80);
+    }
+
+    /** Where a row of the class grows, its room is looked at before the place behind its last one is used. */
+    private void growingRows(String text) {
+        roomIsLookedAt(text, "told[inRow] = v;", "inRow >= MOST_IN_ROW");
+        roomIsLookedAt(text, "text[size] = letter;", "return size >= MOST;");
+        roomIsLookedAt(text, "Wager it = wagers[open];", "open < MOST_OPEN &&");
+        roomIsLookedAt(text, "wish[people] = people;", "people >= MOST_PEOPLE");
+    }
+
+    private void roomIsLookedAt(String text, String grows, String looks) {
+        check.holds("a row grows by '" + grows + "'", text.contains(grows));
+        check.holds("its room is looked at by '" + looks + "'", text.contains(looks));
     }
 
     private void face() {
